@@ -340,30 +340,25 @@ public final class PlateVote {
     }
 
     private int fitting() {
-        if (fitted == NONE) {
-            fitted = 0;
-            notes.sift();
-            int until = notes.latestMeal() + 1;
-            // A note of a meal that has been undone is so under no set.
-            for (int set = 0; until <= now.meal && set < 1 << chart.mays; set++) {
-                if (agrees(set, until)) {
-                    fitted |= 1 << set;
-                }
-            }
+        if (fitted != NONE) {
+            return fitted;
         }
-        return fitted;
-    }
-
-    private boolean agrees(int set, int until) {
-        trip.begin(chart);
-        trip.may = set;
-        for (int meal = 0; meal < until && meal < MEALS; meal++) {
-            int course = galley.hold(trip, gone.fed[meal]);
-            if (notes.firstFalse(meal, course, galley.eaten) != NONE) {
-                return false;
+        notes.sift();
+        int until = notes.latestMeal() + 1;
+        int sets = 0;
+        // A note of a meal that has been undone is so with no set.
+        for (int set = 0; until <= now.meal && set < 1 << chart.mays; set++) {
+            trip.begin(chart);
+            trip.may = set;
+            boolean agrees = true;
+            for (int meal = 0; agrees && meal < until && meal < MEALS; meal++) {
+                int course = galley.hold(trip, gone.fed[meal]);
+                agrees = notes.firstFalse(meal, course, galley.eaten) == NONE;
             }
+            sets |= agrees ? 1 << set : 0;
         }
-        return true;
+        fitted = sets;
+        return sets;
     }
 
     public int sure(int may) {
@@ -501,13 +496,23 @@ public final class PlateVote {
 
     /** All that a TEXT tells. */
     static final class Chart {
+        static final int WINDS = 8;
+        static final int GALES = 4;
+
         final Sea sea = new Sea();
-        final Weather weather = new Weather();
         final Code code = new Code();
         /** Mouths first, then those who may be aboard, with no gap once the text has been read. */
         final Mouth[] crew = new Mouth[CREW];
         int mouths = 0;
         int mays = 0;
+        final int[] wind = new int[WINDS];
+        int winds = 0;
+        final int[] galeMeal = new int[GALES];
+        final int[] galeCourse = new int[GALES];
+        final int[] galePlates = new int[GALES];
+        int gales = 0;
+        int stormOdds = 0;
+        int stormPlates = 1;
         int soup = 0;
         int seed = 0;
 
@@ -522,10 +527,13 @@ public final class PlateVote {
         /** As without a text, but that the ways by water are not measured yet. */
         void clear() {
             sea.clear();
-            weather.clear();
             code.size = 0;
             mouths = 0;
             mays = 0;
+            winds = 0;
+            gales = 0;
+            stormOdds = 0;
+            stormPlates = 1;
             soup = 100;
             seed = 0;
         }
@@ -555,6 +563,13 @@ public final class PlateVote {
                 }
             }
             return NONE;
+        }
+
+        int windAt(int meal) {
+            if (winds < 1 || winds > WINDS || meal < 0) {
+                return 0;
+            }
+            return wind[meal % winds];
         }
 
         /** How much a set of those who may be aboard weighs, of a hundred to the power of their number. */
@@ -592,35 +607,6 @@ public final class PlateVote {
             loses = 99;
             codeFrom = 0;
             codeTo = 0;
-        }
-    }
-
-    /** Winds, gales and storms. */
-    static final class Weather {
-        static final int WINDS = 8;
-        static final int GALES = 4;
-
-        final int[] wind = new int[WINDS];
-        int winds = 0;
-        final int[] galeMeal = new int[GALES];
-        final int[] galeCourse = new int[GALES];
-        final int[] galePlates = new int[GALES];
-        int gales = 0;
-        int stormOdds = 0;
-        int stormPlates = 1;
-
-        void clear() {
-            winds = 0;
-            gales = 0;
-            stormOdds = 0;
-            stormPlates = 1;
-        }
-
-        int windAt(int meal) {
-            if (winds < 1 || winds > WINDS || meal < 0) {
-                return 0;
-            }
-            return wind[meal % winds];
         }
     }
 
@@ -739,22 +725,18 @@ public final class PlateVote {
             }
         }
 
-        private int rowAt(int row, int cell) {
-            int place = row * CELLS + cell;
-            return isCell(cell) && place >= 0 && place < rows.length ? rows[place] : NOWHERE;
-        }
-
         int fromBahia(int cell) {
-            return rowAt(ISLES, cell);
+            return cell >= 0 && cell < CELLS ? rows[ISLES * CELLS + cell] : NOWHERE;
         }
 
         int fromIsle(int isle, int cell) {
-            return rowAt(isle, cell);
+            boolean isThere = isle >= 0 && isle < ISLES && cell >= 0 && cell < CELLS;
+            return isThere ? rows[isle * CELLS + cell] : NOWHERE;
         }
 
         int between(int one, int other) {
             spread(one, ISLES + 1);
-            return rowAt(ISLES + 1, other);
+            return other >= 0 && other < CELLS ? rows[(ISLES + 1) * CELLS + other] : NOWHERE;
         }
     }
 
@@ -1019,7 +1001,7 @@ public final class PlateVote {
             long[] names = chart.code.names;
             names[0] = course;
             names[1] = chart.sea.fromBahia(cell);
-            names[2] = chart.weather.windAt(v.meal) == course ? 1 : 0;
+            names[2] = chart.windAt(v.meal) == course ? 1 : 0;
             names[3] = v.meal;
             names[4] = served;
             names[5] = v.lost[i];
@@ -1080,10 +1062,9 @@ public final class PlateVote {
                     give(bribe(v, isle), sea.isleGoats[isle]);
                 }
             }
-            Weather weather = chart.weather;
-            for (int k = 0; trial != NO_GALES && k < weather.gales && k < Weather.GALES; k++) {
-                if (weather.galeMeal[k] == v.meal) {
-                    give(weather.galeCourse[k], weather.galePlates[k]);
+            for (int k = 0; trial != NO_GALES && k < chart.gales && k < Chart.GALES; k++) {
+                if (chart.galeMeal[k] == v.meal) {
+                    give(chart.galeCourse[k], chart.galePlates[k]);
                 }
             }
         }
@@ -1111,16 +1092,16 @@ public final class PlateVote {
         /** Lets a STORM come or not, behind poll(). */
         private void blow(Voyage v) {
             storm = NONE;
-            int odds = chart.weather.stormOdds;
+            int odds = chart.stormOdds;
             if (odds > 0 && trial != NO_GALES && v.draw() % 100 < odds) {
                 storm = v.draw() % COURSES;
-                give(storm, chart.weather.stormPlates);
+                give(storm, chart.stormPlates);
             }
         }
 
         /** The COURSE that is TAKEN by the votes as they stand. */
         int winner(Voyage v) {
-            int best = chart.weather.windAt(v.meal);
+            int best = chart.windAt(v.meal);
             int most = 0;
             for (int course = 0; course < COURSES; course++) {
                 if (votes[course] > most) {
@@ -1358,90 +1339,40 @@ public final class PlateVote {
         }
     }
 
-    /** Reads a TEXT into a chart, up to its first FAULT. */
-    static final class Reader {
+    /** Cuts a TEXT into TOKENS. */
+    static final class Scanner {
         private static final String LANGUAGE = "sea land ship bahia isle wind gale storm soup seed mouth may odds from till sick loses or and not course far windy meal plates lost stock ";
         private static final int KEYS = 27;
-        private static final int SEA = 0;
-        private static final int LAND = 1;
-        private static final int SHIP = 2;
-        private static final int BAHIA = 3;
-        private static final int ISLE = 4;
-        private static final int WIND = 5;
-        private static final int GALE = 6;
-        private static final int STORM = 7;
-        private static final int SOUP = 8;
-        private static final int SEED = 9;
-        private static final int MOUTH = 10;
-        private static final int MAY = 11;
-        private static final int ODDS = 12;
-        private static final int FROM = 13;
-        private static final int TILL = 14;
-        private static final int SICK = 15;
-        private static final int LOSES = 16;
-        private static final int OR = 17;
-        private static final int AND = 18;
-        private static final int NOT = 19;
-        private static final int COURSE = 20;
+        private static final int LETTERS = 6;
+        private static final int HUGE = 1000000;
 
-        private static final int END = 0;
-        private static final int WORD = 1;
-        private static final int KEY = 2;
-        private static final int NUMBER = 3;
-        private static final int SIGN = 4;
-        private static final int BAD = 5;
+        /** Kinds of TOKENS; their values: none, letters, which word of the language, number, sign, none. */
+        static final int END = 0;
+        static final int WORD = 1;
+        static final int KEY = 2;
+        static final int NUMBER = 3;
+        static final int SIGN = 4;
+        static final int BAD = 5;
 
         /** Signs that are no knots; the others are those of Code. */
-        private static final int OPEN = 15;
-        private static final int CLOSE = 16;
-        private static final int LINE_END = 17;
-        /** How closely each sign of Code, and then OPEN, holds what stands beside it. */
-        private static final int[] RANK = {0, 0, 1, 2, 3, 4, 4, 4, 4, 4, 4, 5, 5, 6, 6, 0};
-        private static final int COMPARES = 4;
-
-        private static final int NO_TOKEN = 1;
-        private static final int TOO_MUCH = 2;
-        private static final int TOLD = 3;
-        private static final int SEA_BEHIND = 4;
-        private static final int ON_LAND = 5;
-
-        private static final int LETTERS = 6;
-        private static final int LANDS = 20;
-        private static final int OPEN_MOST = 8;
-        private static final int HUGE = 1000000;
+        static final int OPEN = 15;
+        static final int CLOSE = 16;
+        static final int LINE_END = 17;
 
         private final int[] keys = new int[KEYS];
         private final byte[] text;
         private int length = 0;
         private int next = 0;
-        private Chart chart;
-        int lines = 0;
-        int faultKind = 0;
-        int faultPlace = NONE;
-
-        /** The TOKEN that is next: its kind, its place, its number, letters, word of the language or sign. */
         private int kind = END;
-        private int place = 0;
         private int value = 0;
-        private int key = NONE;
-        private int sign = NONE;
+        final int[] kinds = new int[TAPE + 1];
+        final int[] values = new int[TAPE + 1];
+        final int[] places = new int[TAPE + 1];
+        /** How many TOKENS there are; the last one is END. */
+        int size = 0;
 
-        /** The number, or CELL, that was read last, and its place. */
-        private int got = 0;
-        private int gotPlace = 0;
-        /** Which words of LINES there were, as bits. */
-        private int told = 0;
-
-        /** Signs of an E that wait for what stands behind them. */
-        private final int[] pending = new int[Code.KNOTS + OPEN_MOST];
-        private int waiting = 0;
-        private int open = 0;
-        private int knots = 0;
-        private boolean wantsPart = true;
-
-        Reader(byte[] tape, Chart into) {
+        Scanner(byte[] tape) {
             text = tape;
-            chart = into;
             int word = 0;
             int packed = 0;
             int letters = 0;
@@ -1459,52 +1390,31 @@ public final class PlateVote {
             }
         }
 
-        /** Whether the first n bytes are a TEXT; then the chart is as it tells. */
-        boolean read(int n, Chart into) {
-            chart = into;
-            chart.clear();
+        /** Finds the TOKENS of the first n bytes. */
+        void scan(int n) {
             length = Math.max(0, Math.min(n, text.length));
             next = 0;
-            lines = 0;
-            told = 0;
-            knots = 0;
-            faultKind = 0;
-            faultPlace = NONE;
-            advance();
-            for (int k = 0; k <= length && kind != END; k++) {
-                if (!readLine()) {
-                    return false;
+            size = 0;
+            kind = BAD;
+            // Each of them but END has a byte at least.
+            while (size <= TAPE && kind != END) {
+                while (next < length && (text[next] == ' ' || text[next] == 10)) {
+                    next++;
                 }
-                lines++;
-            }
-            chart.close();
-            return true;
-        }
-
-        private boolean wrong(int fault, int where) {
-            faultKind = fault;
-            faultPlace = where;
-            return false;
-        }
-
-        // ---- tokens ----
-
-        private void advance() {
-            while (next < length && (text[next] == ' ' || text[next] == 10)) {
-                next++;
-            }
-            place = next;
-            key = NONE;
-            sign = NONE;
-            value = 0;
-            if (next >= length) {
-                kind = END;
-            } else if (isLetter(text[next])) {
-                scanWord();
-            } else if (isDigit(text[next])) {
-                scanNumber();
-            } else {
-                scanSign(text[next]);
+                places[size] = next;
+                value = 0;
+                if (next >= length) {
+                    kind = END;
+                } else if (isLetter(text[next])) {
+                    scanWord();
+                } else if (isDigit(text[next])) {
+                    scanNumber();
+                } else {
+                    scanSign(text[next]);
+                }
+                kinds[size] = kind;
+                values[size] = value;
+                size++;
             }
         }
 
@@ -1529,14 +1439,11 @@ public final class PlateVote {
             }
             value <<= 5 * (LETTERS - letters);
             kind = WORD;
-            for (int k = 0; k < KEYS; k++) {
+            for (int k = 0; k < KEYS && kind == WORD; k++) {
                 if (keys[k] == value) {
                     kind = KEY;
-                    key = k;
+                    value = k;
                 }
-            }
-            if (key >= OR && key <= NOT) {
-                sign = key - OR + Code.OR;
             }
         }
 
@@ -1553,34 +1460,34 @@ public final class PlateVote {
             next++;
             switch (c) {
                 case ';':
-                    sign = LINE_END;
+                    value = LINE_END;
                     break;
                 case '(':
-                    sign = OPEN;
+                    value = OPEN;
                     break;
                 case ')':
-                    sign = CLOSE;
+                    value = CLOSE;
                     break;
                 case '+':
-                    sign = Code.PLUS;
+                    value = Code.PLUS;
                     break;
                 case '-':
-                    sign = Code.MINUS;
+                    value = Code.MINUS;
                     break;
                 case '*':
-                    sign = Code.TIMES;
+                    value = Code.TIMES;
                     break;
                 case '/':
-                    sign = Code.OVER;
+                    value = Code.OVER;
                     break;
                 case '=':
-                    sign = Code.SAME;
+                    value = Code.SAME;
                     break;
                 case '<':
-                    sign = follows('=') ? Code.AT_MOST : follows('>') ? Code.OTHER : Code.LESS;
+                    value = follows('=') ? Code.AT_MOST : follows('>') ? Code.OTHER : Code.LESS;
                     break;
                 case '>':
-                    sign = follows('=') ? Code.AT_LEAST : Code.MORE;
+                    value = follows('=') ? Code.AT_LEAST : Code.MORE;
                     break;
                 default:
                     kind = BAD;
@@ -1593,6 +1500,118 @@ public final class PlateVote {
             boolean does = next < length && text[next] == c;
             next += does ? 1 : 0;
             return does;
+        }
+    }
+
+    /** Reads a TEXT into a chart, up to its first FAULT. */
+    static final class Reader {
+        /** The words of the language, as Scanner numbers them. */
+        private static final int SEA = 0;
+        private static final int LAND = 1;
+        private static final int SHIP = 2;
+        private static final int BAHIA = 3;
+        private static final int ISLE = 4;
+        private static final int WIND = 5;
+        private static final int GALE = 6;
+        private static final int STORM = 7;
+        private static final int SOUP = 8;
+        private static final int SEED = 9;
+        private static final int MOUTH = 10;
+        private static final int MAY = 11;
+        private static final int ODDS = 12;
+        private static final int FROM = 13;
+        private static final int SICK = 15;
+        private static final int LOSES = 16;
+        private static final int OR = 17;
+        private static final int NOT = 19;
+        private static final int COURSE = 20;
+
+        /** How closely each sign of Code, and then OPEN, holds what stands beside it. */
+        private static final int[] RANK = {0, 0, 1, 2, 3, 4, 4, 4, 4, 4, 4, 5, 5, 6, 6, 0};
+        private static final int COMPARES = 4;
+
+        private static final int NO_TOKEN = 1;
+        private static final int TOO_MUCH = 2;
+        private static final int TOLD = 3;
+        private static final int SEA_BEHIND = 4;
+        private static final int ON_LAND = 5;
+
+        private static final int LANDS = 20;
+        private static final int OPEN_MOST = 8;
+
+        private final Scanner scanner;
+        private Chart chart;
+        int lines = 0;
+        int faultKind = 0;
+        int faultPlace = NONE;
+
+        /** Which TOKEN is next, and what it is: key and sign are NONE if it is no such one. */
+        private int at = 0;
+        private int kind = Scanner.END;
+        private int place = 0;
+        private int value = 0;
+        private int key = NONE;
+        private int sign = NONE;
+
+        /** The number, or CELL, that was read last, and its place. */
+        private int got = 0;
+        private int gotPlace = 0;
+        /** Which words of LINES there were, as bits. */
+        private int told = 0;
+
+        /** Signs of an E that wait for what stands behind them. */
+        private final int[] pending = new int[Code.KNOTS + OPEN_MOST];
+        private int waiting = 0;
+        private int open = 0;
+        private int knots = 0;
+        private boolean wantsPart = true;
+
+        Reader(byte[] tape, Chart into) {
+            scanner = new Scanner(tape);
+            chart = into;
+        }
+
+        /** Whether the first n bytes are a TEXT; then the chart is as it tells. */
+        boolean read(int n, Chart into) {
+            chart = into;
+            chart.clear();
+            scanner.scan(n);
+            lines = 0;
+            told = 0;
+            knots = 0;
+            faultKind = 0;
+            faultPlace = NONE;
+            at = NONE;
+            advance();
+            for (int k = 0; k <= TAPE && kind != Scanner.END; k++) {
+                if (!readLine()) {
+                    return false;
+                }
+                lines++;
+            }
+            chart.close();
+            return true;
+        }
+
+        private void advance() {
+            at = Math.max(0, Math.min(at + 1, scanner.size - 1));
+            if (at > TAPE) {
+                return;
+            }
+            kind = scanner.kinds[at];
+            place = scanner.places[at];
+            value = scanner.values[at];
+            key = kind == Scanner.KEY ? value : NONE;
+            sign = kind == Scanner.SIGN ? value : NONE;
+            if (key >= OR && key <= NOT) {
+                sign = key - OR + Code.OR;
+            }
+        }
+
+        private boolean wrong(int fault, int where) {
+            faultKind = fault;
+            faultPlace = where;
+            return false;
         }
 
         // ---- lines ----
@@ -1640,7 +1659,7 @@ public final class PlateVote {
         }
 
         private boolean endLine() {
-            if (sign != LINE_END) {
+            if (sign != Scanner.LINE_END) {
                 return wrong(NO_TOKEN, place);
             }
             advance();
@@ -1660,7 +1679,7 @@ public final class PlateVote {
         }
 
         private boolean readNumber(int least, int most) {
-            if (kind != NUMBER) {
+            if (kind != Scanner.NUMBER) {
                 return wrong(NO_TOKEN, place);
             }
             if (value < least || value > most) {
@@ -1747,7 +1766,7 @@ public final class PlateVote {
             if (isle < 0 || isle >= ISLES) {
                 return wrong(TOO_MUCH, at);
             }
-            if (kind != WORD) {
+            if (kind != Scanner.WORD) {
                 return wrong(NO_TOKEN, place);
             }
             if (sea.isleNamed(value) != NONE) {
@@ -1776,39 +1795,37 @@ public final class PlateVote {
             if (!tellOnce(WIND, at)) {
                 return false;
             }
-            Weather weather = chart.weather;
-            for (int k = 0; k <= Weather.WINDS && (k == 0 || kind == NUMBER); k++) {
-                if (k == Weather.WINDS) {
+            for (int k = 0; k <= Chart.WINDS && (k == 0 || kind == Scanner.NUMBER); k++) {
+                if (k == Chart.WINDS) {
                     return wrong(TOO_MUCH, place);
                 }
                 if (!readNumber(0, COURSES - 1)) {
                     return false;
                 }
-                weather.wind[k] = got;
-                weather.winds = k + 1;
+                chart.wind[k] = got;
+                chart.winds = k + 1;
             }
             return true;
         }
 
         private boolean readGale(int at) {
-            Weather weather = chart.weather;
-            int gale = weather.gales;
-            if (gale < 0 || gale >= Weather.GALES) {
+            int gale = chart.gales;
+            if (gale < 0 || gale >= Chart.GALES) {
                 return wrong(TOO_MUCH, at);
             }
             if (!readNumber(0, MEALS - 1)) {
                 return false;
             }
-            weather.galeMeal[gale] = got;
+            chart.galeMeal[gale] = got;
             if (!readNumber(0, COURSES - 1)) {
                 return false;
             }
-            weather.galeCourse[gale] = got;
+            chart.galeCourse[gale] = got;
             if (!readNumber(1, 99)) {
                 return false;
             }
-            weather.galePlates[gale] = got;
-            weather.gales++;
+            chart.galePlates[gale] = got;
+            chart.gales++;
             return true;
         }
 
@@ -1816,11 +1833,11 @@ public final class PlateVote {
             if (!tellOnce(STORM, at) || !readNumber(0, 99)) {
                 return false;
             }
-            chart.weather.stormOdds = got;
+            chart.stormOdds = got;
             if (!readNumber(1, 99)) {
                 return false;
             }
-            chart.weather.stormPlates = got;
+            chart.stormPlates = got;
             return true;
         }
 
@@ -1844,7 +1861,7 @@ public final class PlateVote {
                 return wrong(TOO_MUCH, at);
             }
             int slot = isMay ? MOUTHS + chart.mays : chart.mouths;
-            if (kind != WORD || slot < 0 || slot >= CREW) {
+            if (kind != Scanner.WORD || slot < 0 || slot >= CREW) {
                 return wrong(NO_TOKEN, place);
             }
             if (isCrewName(value)) {
@@ -1943,15 +1960,17 @@ public final class PlateVote {
 
         // ---- E ----
 
+        /** Each step takes one TOKEN, and knows whether a part of E or a sign must come. */
         private boolean readExpression(Mouth mouth) {
             mouth.codeFrom = chart.code.size;
             waiting = 0;
             open = 0;
             wantsPart = true;
-            for (int k = 0; k <= length && (wantsPart || goesOn()); k++) {
-                if (wantsPart ? !readPart() : !readSign()) {
+            for (int k = 0; k <= TAPE && (wantsPart || goesOn()); k++) {
+                if (wantsPart ? !takePart() : !takeSign()) {
                     return false;
                 }
+                advance();
             }
             if (open > 0) {
                 return wrong(NO_TOKEN, place);
@@ -1962,61 +1981,48 @@ public final class PlateVote {
         }
 
         private boolean goesOn() {
-            return sign != NONE && sign != Code.NOT && sign != OPEN && sign != LINE_END;
+            return sign != NONE && sign != Code.NOT && sign != Scanner.OPEN && sign != Scanner.LINE_END;
         }
 
-        private boolean readPart() {
-            if (kind == NUMBER) {
-                if (value > 9999) {
-                    return wrong(TOO_MUCH, place);
-                }
-                return readLeaf(Code.NUMBER, value);
+        private boolean takePart() {
+            if (kind == Scanner.NUMBER && value > 9999) {
+                return wrong(TOO_MUCH, place);
             }
-            if (key >= COURSE) {
-                return readLeaf(Code.NAME, key - COURSE);
+            if (kind == Scanner.NUMBER || key >= COURSE) {
+                wantsPart = false;
+                return countKnot() && addLeaf();
             }
-            if (sign == OPEN) {
+            if (sign == Scanner.OPEN) {
                 if (open >= OPEN_MOST) {
                     return wrong(TOO_MUCH, place);
                 }
                 open++;
-                defer(OPEN);
-                advance();
-                return true;
+                return defer(Scanner.OPEN);
             }
-            // Only what is joined by and, or may begin with not: a comparison's and a sum's sides may not.
+            // Only what and, or join may begin with not: the sides of a comparison and of a sum may not.
             if (sign != Code.NOT || rankOnTop() >= COMPARES) {
                 return wrong(NO_TOKEN, place);
             }
-            return countKnot() && readOn(Code.NOT);
+            return countKnot() && defer(Code.NOT);
         }
 
-        private boolean readLeaf(int leaf, int what) {
-            if (!countKnot()) {
-                return false;
+        private boolean addLeaf() {
+            if (kind == Scanner.NUMBER) {
+                chart.code.add(Code.NUMBER, value);
+            } else {
+                chart.code.add(Code.NAME, key - COURSE);
             }
-            chart.code.add(leaf, what);
-            wantsPart = false;
-            advance();
             return true;
         }
 
-        private boolean readOn(int deferred) {
-            defer(deferred);
-            wantsPart = true;
-            advance();
-            return true;
-        }
-
-        private boolean readSign() {
-            if (sign == CLOSE) {
+        private boolean takeSign() {
+            if (sign == Scanner.CLOSE) {
                 if (open < 1) {
                     return wrong(NO_TOKEN, place);
                 }
                 release(1);
                 waiting -= waiting > 0 ? 1 : 0;
                 open--;
-                advance();
                 return true;
             }
             int rank = rankOf(sign);
@@ -2025,7 +2031,8 @@ public final class PlateVote {
             if (rank == COMPARES && rankOnTop() == COMPARES) {
                 return wrong(NO_TOKEN, place);
             }
-            return countKnot() && readOn(sign);
+            wantsPart = true;
+            return countKnot() && defer(sign);
         }
 
         private boolean countKnot() {
@@ -2044,16 +2051,18 @@ public final class PlateVote {
             return waiting > 0 && waiting <= pending.length ? rankOf(pending[waiting - 1]) : 0;
         }
 
-        private void defer(int what) {
-            if (waiting >= 0 && waiting < pending.length) {
-                pending[waiting] = what;
-                waiting++;
+        private boolean defer(int what) {
+            if (waiting < 0 || waiting >= pending.length) {
+                return wrong(TOO_MUCH, place);
             }
+            pending[waiting] = what;
+            waiting++;
+            return true;
         }
 
         /** Lets out the signs that hold at least as closely as rank. */
         private void release(int rank) {
-            while (waiting > 0 && waiting <= pending.length && rankOnTop() >= rank) {
+            while (waiting > 0 && waiting <= pending.length && rankOf(pending[waiting - 1]) >= rank) {
                 waiting--;
                 chart.code.add(pending[waiting], 0);
             }
