@@ -172,6 +172,7 @@ public final class TextTest {
         CheckKit.fault("wind 0 4;", 2, 7);
         CheckKit.fault("wind x;", 1, 5);
         CheckKit.fault("gale 59 3 99;", 0, -1);
+        CheckKit.fault("gale 60 1 1;", 2, 5);
         CheckKit.fault("gale 59 4 99;", 2, 8);
         CheckKit.fault("gale 59 3 100;", 2, 10);
         CheckKit.fault("gale 59 3 0;", 2, 10);
@@ -188,6 +189,10 @@ public final class TextTest {
         CheckKit.fault("mouth abcdefg 9 1;", 1, 6);
         CheckKit.fault("mouth sea 9 1;", 1, 6);
         CheckKit.fault("mouth 1 9 1;", 1, 6);
+        CheckKit.fault("mouth a 10 1;", 2, 8);
+        CheckKit.fault("mouth a 1 1;mouth a 1 1;", 3, 18);
+        CheckKit.fault("mouth a 1 1;may a 1 odds 1 1;", 3, 16);
+        CheckKit.fault("may a 1 odds 1 1;may a 1 odds 1 1;", 3, 21);
         CheckKit.fault("mouth a x;", 1, 8);
         CheckKit.fault("mouth a 1", 1, 9);
         CheckKit.fault("may a 1 odds 99 1;", 0, -1);
@@ -209,6 +214,7 @@ public final class TextTest {
         CheckKit.fault("mouth a 1 from 60 1;", 2, 15);
         CheckKit.fault("mouth a 1 till 60 1;", 2, 15);
         CheckKit.fault("mouth a 1 from 59 till 59 1;", 0, -1);
+        CheckKit.fault("mouth a 1 sick 59 59 1;", 0, -1);
         CheckKit.fault("mouth a 1 sick 60 60 1;", 2, 15);
         CheckKit.fault("mouth a 1 sick 5 60 1;", 2, 17);
         CheckKit.fault("mouth a 1 sick 5;", 1, 16);

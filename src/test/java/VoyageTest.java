@@ -561,6 +561,18 @@ public final class VoyageTest {
         x.meals(1);
         CheckKit.due("another in its place", x.keep(), 4);
         CheckKit.due("that one", x.back(), 4);
+        PlateVote y = CheckKit.told("sea 5 5;ship 2 2;wind 1;mouth a 2 course=3;");
+        y.meals(2);
+        y.keep();
+        y.undo();
+        y.undo();
+        y.fed(0);
+        y.meals(3);
+        CheckKit.due("another log", y.log(0, 0), 1);
+        y.back();
+        CheckKit.due("the log as kept", y.log(0, 0), 3);
+        CheckKit.due("the log as kept", y.log(1, 1), 2);
+        CheckKit.due("no more of it", y.log(2, 0), -1);
         CheckKit.due("keeping leaves what can be undone", x.meals(2) + x.keep() + x.count(9), 14);
     }
 
