@@ -39,7 +39,11 @@ public final class RandomRunsTest {
         if (chance == 1) {
             return most + 1 + to(3);
         }
-        return chance == 2 ? random.nextInt() : to(most + 1);
+        if (chance == 2) {
+            int[] wild = {Integer.MIN_VALUE, Integer.MAX_VALUE, random.nextInt(), 64, 99};
+            return wild[to(wild.length)];
+        }
+        return to(most + 1);
     }
 
     private void run(int seed) {
