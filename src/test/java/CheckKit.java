@@ -11,12 +11,16 @@ final class CheckKit {
         checks++;
         if (got != want) {
             wrong++;
-            System.out.println(what + ": answered " + got + ", due is " + want);
+            System.out.println(SentenceKit.now() + what + ": answered " + got + ", due is " + want);
         }
     }
 
     static void due(String what, boolean got, boolean want) {
         due(what, got ? 1 : 0, want ? 1 : 0);
+    }
+
+    static int checks() {
+        return checks;
     }
 
     /** Feeds a text, filled up with blanks to whole feeds. */
@@ -54,6 +58,20 @@ final class CheckKit {
         due("text of '" + text + "'", lines < 0, kind != 0);
         due("fault of '" + text + "'", x.fault(0), kind);
         due("place in '" + text + "'", x.fault(1), place);
+    }
+
+    /** A text with a fault where the sign | stands in it, which is no part of it. */
+    static void faultAt(String marked, int kind) {
+        int place = marked.indexOf('|');
+        fault(marked.substring(0, place) + marked.substring(place + 1), kind, place);
+    }
+
+    /** A text without a fault, of so many lines. */
+    static void fine(String text, int lines) {
+        PlateVote x = new PlateVote();
+        due("lines of '" + text + "'", tell(x, text), lines);
+        due("no fault in '" + text + "'", x.fault(0), 0);
+        due("no place in '" + text + "'", x.fault(1), NONE);
     }
 
     static int letters(String name) {
