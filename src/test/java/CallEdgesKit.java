@@ -14,6 +14,7 @@ final class CallEdgesKit {
         feed();
         text();
         textIsNew();
+        textBehindText();
         textWithFault();
         textOfTooMuch();
         fault();
@@ -150,15 +151,37 @@ final class CallEdgesKit {
         }
         CheckKit.due("all 800", CheckKit.tell(x, full.toString()), 1);
         CheckKit.due("all 800", x.ship(2), 9);
+        for (String sign : new String[] {";", "(", "=", "0", "?", "<"}) {
+            CheckKit.due("800 tokens", CheckKit.tell(x, sign.repeat(800)), -1);
+            CheckKit.due("800 tokens", x.fault(1), 0);
+            CheckKit.due("the rest of it", CheckKit.tell(x, "mouth a 1 " + sign.repeat(790)), -1);
+        }
+        CheckKit.due("one word", CheckKit.tell(x, "a".repeat(800)), -1);
+        CheckKit.due("one word", x.fault(1), 0);
+        CheckKit.due("one number", CheckKit.tell(x, "soup 7" + "7".repeat(794)), -1);
+        CheckKit.due("one number", x.fault(0) * 10 + x.fault(1), 25);
+        CheckKit.due("noughts", CheckKit.tell(x, "soup " + "0".repeat(793) + "7;"), 1);
+        CheckKit.due("noughts", x.ship(2), 7);
+        CheckKit.due("more must come", CheckKit.tell(x, "soup " + "0".repeat(794) + "7"), -1);
+        CheckKit.due("more must come", x.fault(1), 800);
+        String text = "mouth abc 1 far<=12;";
+        for (int n = 0; n < text.length(); n++) {
+            CheckKit.feedAll(x, text);
+            CheckKit.due("cut at " + n, x.text(n), n == 0 ? 0 : -1);
+            int word = n < 5 ? 0 : n == 13 || n == 14 ? 12 : n;
+            CheckKit.due("cut at " + n + ", its place", x.fault(1), n == 0 ? -1 : word);
+        }
     }
 
     private static void textIsNew() {
         SentenceKit.promise(3, "(MEAL 0 is next, all FED, no MAY is, no NOTES, all KNOWN, no IMAGE, nothing to undo then): how many LINES;");
         PlateVote x = CheckKit.told("sea 5 5;ship 1 1;land 3 3;bahia 4 4;isle i 2 2 9 9;gale 0 1 9;wind 1;storm 9 9;seed 9;soup 9;"
                 + "mouth a 2 loses 1 course=3;mouth b 1 course=1;may c 1 odds 5 course=0;");
-        x.fed(2);
         x.truth(1);
-        x.meals(30);
+        x.meals(1);
+        CheckKit.due("a has lost and leapt", x.look(0, 2) + x.look(0, 3), 2);
+        x.fed(2);
+        x.meals(29);
         x.keep();
         x.taken(0, 1);
         x.washed(1, 1);
@@ -195,6 +218,63 @@ final class CallEdgesKit {
         CheckKit.due("no wind, no storm", x.log(0, 3), -1);
         CheckKit.due("no lines", x.text(0), 0);
         CheckKit.due("nobody", x.count(2) + x.count(3) + x.count(6) + x.count(7), 0);
+    }
+
+    /** Nothing of another text, with a fault or without, is in the next one. */
+    private static void textBehindText() {
+        String much = "sea 8 7;ship 3 3;bahia 4 4;land 1 1;land 2 2;isle i 2 1 9 9;isle j 2 1 9 9;isle k 2 1 9 9;wind 1 2 3 3;gale 0 1 9;gale 0 1 9;"
+                + "gale 0 1 9;gale 0 1 9;storm 99 99;soup 7;seed 7;mouth a 9 from 5 till 6 sick 0 59 loses 1 1+2*3;mouth b 9 from 5 sick 0 59 7;"
+                + "may c 9 odds 99 from 5 till 6 sick 0 59 loses 1 (not 1);";
+        SentenceKit.promise(3, "The TAPE's first n bytes (it is empty then) are the TEXT");
+        String[] ends = {"?", "", "mouth a 1 1;", "mouth z 1 ((((((((|", "mouth z 1 not (1 or 2+3*", "may z 9 odds 9 from 9 sick 9 9"};
+        for (String end : ends) {
+            PlateVote x = new PlateVote();
+            for (int k = 0; k < 3; k++) {
+                CheckKit.due("a text ahead", CheckKit.tell(x, much + end), end.isEmpty() ? 19 : -1);
+                CheckKit.due("the next", CheckKit.tell(x, "ship 1 0;mouth a 1 ((((((((5-3))))))));may c 2 odds 50 far-2;mouth d 3 9;"), 4);
+                int[] counts = {4, 4, 2, 1, 0, 7, 0, 0, 0, 0, 2};
+                for (int what = 0; what < counts.length; what++) {
+                    CheckKit.due("behind " + end + ", count " + what, x.count(what), counts[what]);
+                }
+                int[] ship = {1, 0, 100, -1};
+                int[] plates = {1, 3, 2};
+                long[] laws = {2, 9, 0};
+                for (int i = 0; i < 3; i++) {
+                    CheckKit.due("aboard " + i, x.look(i, 0), i < 2 ? 1 : 0);
+                    CheckKit.due("plates of " + i, x.look(i, 1), plates[i]);
+                    CheckKit.due("law of " + i, x.law(i, 1, 1), laws[i]);
+                    CheckKit.due("votes " + i, x.votes(i), i == 1 ? 4 : 0);
+                }
+                for (int what = 0; what < 4; what++) {
+                    CheckKit.due("ship " + what, x.ship(what), ship[what]);
+                }
+                CheckKit.due("no land", x.land(5) + x.land(10), 0);
+                CheckKit.due("no isle", x.named(0, CheckKit.letters("i")), -1);
+                CheckKit.due("odds", x.odds(0, 1), 2);
+                x.fed(0);
+                x.meals(2);
+                CheckKit.due("no wind, no storm", x.log(0, 0) + x.log(1, 0) + x.log(0, 3) + x.log(1, 3), -2);
+            }
+        }
+        crewsInTurn();
+    }
+
+    private static void crewsInTurn() {
+        String[] texts = {"may e 5 odds 1 55;may f 6 odds 1 66;mouth a 1 11;", "mouth a 1 11;mouth b 2 22;mouth c 3 33;mouth d 4 44;mouth e 5 55;may f 6 odds 1 66;"
+            + "may g 7 odds 1 77;may h 8 odds 1 88;may i 9 odds 1 99;", "may a 1 odds 1 11;may b 2 odds 1 22;may c 3 odds 1 33;may d 4 odds 1 44;", ""};
+        int[][] plates = {{1, 5, 6}, {1, 2, 3, 4, 5, 6, 7, 8, 9}, {1, 2, 3, 4}, {}};
+        PlateVote x = new PlateVote();
+        for (int k = 0; k < 9; k++) {
+            int which = k * 7 % 4;
+            CheckKit.tell(x, texts[which]);
+            for (int i = 0; i < plates[which].length; i++) {
+                String name = String.valueOf((char) ('a' + plates[which][i] - 1));
+                CheckKit.due("text " + which + ", number of " + name, x.named(1, CheckKit.letters(name)), i);
+                CheckKit.due("text " + which + ", plates of " + name, x.look(i, 1), plates[which][i]);
+                CheckKit.due("text " + which + ", law of " + name, x.law(i, 1, 0), 11 * plates[which][i]);
+            }
+            CheckKit.due("text " + which + ", no more", threw(x, plates[which].length, 0), 1);
+        }
     }
 
     private static void textWithFault() {

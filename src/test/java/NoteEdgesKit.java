@@ -403,6 +403,7 @@ final class NoteEdgesKit {
         x.undo();
         x.fed(1);
         x.keep();
+        CheckKit.due("undone again", x.fits(), 0);
         x.meals(1);
         CheckKit.due("held again", x.fits(), 2);
         x.back();

@@ -6,6 +6,7 @@ final class PlanEdgesKit {
     static void run() {
         planTerms();
         leastPlan();
+        planByPlaying();
         plan();
         noPlan();
         powerTerms();
@@ -99,6 +100,57 @@ final class PlanEdgesKit {
         CheckKit.due("what all eat", x.plan(1, -1), 3);
     }
 
+    /** The best plan as it is when all are played: soup, meals, and whom to feed at each of them; null without one. */
+    private static int[] played(String text, int truth, int n) {
+        int sets = 1 << CheckKit.told(text).count(2);
+        int[] best = null;
+        for (int all = 0; all < Math.pow(sets, n); all++) {
+            PlateVote x = CheckKit.told(text);
+            x.truth(truth);
+            int[] plan = new int[2 + n];
+            int rest = all;
+            for (int k = n - 1; k >= 0; k--) {
+                plan[2 + k] = rest % sets;
+                rest /= sets;
+            }
+            while (plan[1] < n && x.ship(0) != x.ship(1)) {
+                x.fed(plan[2 + plan[1]]);
+                x.meals(1);
+                plan[0] += x.log(plan[1], 1);
+                plan[1]++;
+            }
+            java.util.Arrays.fill(plan, 2 + plan[1], 2 + n, 0);
+            if (x.ship(0) == x.ship(1) && (best == null || java.util.Arrays.compare(plan, best) < 0)) {
+                best = plan;
+            }
+        }
+        return best;
+    }
+
+    private static void planByPlaying() {
+        SentenceKit.terms("the least SOUP eaten till then (by all), of several the fewest MEALS, of several the first by MEALS (bits).");
+        String[] texts = {
+            "sea 4 4;bahia 2 1;wind 3 0;soup 9;mouth a 3 course=plates;mouth b 2 course=meal;mouth c 4 loses 1 course=plates-1;",
+            "sea 4 4;ship 1 1;bahia 3 2;soup 6;mouth a 2 course=stock-stock/4*4;mouth b 3 course=plates;mouth c 1 from 1 course=2;may m 2 odds 1 course=0;",
+            "sea 4 4;ship 3 3;bahia 2 1;wind 1;gale 0 2 2;gale 1 1 1;mouth a 1 course=0;mouth b 1 loses 1 course=3;mouth c 2 course=(meal=1)*3;isle i 3 3 1 1;",
+            "sea 3 3;ship 1 1;bahia 0 0;soup 8;mouth a 3 course=lost;mouth b 3 course=3-lost;mouth c 3 course=plates;may m 1 odds 1 course=2;",
+            "sea 3 3;land 1 0;bahia 2 1;soup 5;mouth a 2 sick 1 1 0-far;mouth b 3 till 1 0-far;mouth c 1 far;",
+            "sea 4 4;ship 2 2;bahia 1 0;soup 7;mouth a 1 course=(meal<2)*3;mouth b 2 course=0;mouth c 3 course=plates;mouth d 2 course=plates+1;"};
+        for (String text : texts) {
+            for (int truth = 0; truth < (text.contains("may") ? 2 : 1); truth++) {
+                for (int n = 1; n <= (text.contains("mouth d") ? 2 : 3); n++) {
+                    int[] best = played(text, truth, n);
+                    PlateVote x = CheckKit.told(text);
+                    x.truth(truth);
+                    CheckKit.due("soup by " + n + " of " + text, x.plan(n, -1), best == null ? -2 : best[0]);
+                    for (int k = 0; k < 3; k++) {
+                        CheckKit.due("meal " + k + " by " + n + " of " + text, x.plan(n, k), best == null || k >= best[1] ? -2 : best[2 + k]);
+                    }
+                }
+            }
+        }
+    }
+
     private static void plan() {
         SentenceKit.promise(17, "PLAN (n 1 .. 3), what NONE: the SOUP, a MEAL 0 up of it: whom to FEED (bits).");
         PlateVote x = CheckKit.told("sea 5 1;bahia 3 0;wind 3;mouth a 5 sick 1 1 course=1;mouth b 2 course=1;mouth c 1 sick 2 2 course=1;mouth d 0 1;"
@@ -111,6 +163,15 @@ final class PlanEdgesKit {
         String before = CallEdgesKit.state(x);
         x.plan(3, 2);
         CheckKit.due("it changes nothing", CallEdgesKit.state(x).equals(before), true);
+        x = CheckKit.told("sea 5 5;ship 2 2;bahia 4 3;soup 7;mouth a 3 course=plates;mouth b 3 course=meal;mouth c 3 course=stock-4;");
+        int[] wishes = {3, 0, 3};
+        for (int n = 1; n <= 3; n++) {
+            x.plan(n, -1);
+            for (int i = 0; i < 3; i++) {
+                CheckKit.due("the wish behind a plan of " + n, x.wish(i), wishes[i]);
+            }
+            CheckKit.due("the votes behind a plan of " + n, x.votes(3), 4);
+        }
         x = CheckKit.told("sea 5 1;ship 1 0;bahia 4 0;wind 3;mouth a 9 course=3;mouth b 9 course=3;mouth c 9 course=3;mouth d 9 course=3;mouth e 9 course=1;");
         for (int k = 0; k < 3; k++) {
             CheckKit.due("the fifth's bit at meal " + k, x.plan(3, k), 16);
@@ -313,6 +374,43 @@ final class PlanEdgesKit {
         x.meals(1);
         CheckKit.due("from now", x.tried(0, 0, 1), 14);
         CheckKit.due("none", x.tried(0, 0, 0), 13);
+        // The last plate is enough for sixty meals if it is never less.
+        x = CheckKit.told("sea 2 1;soup 1;mouth a 1 1;");
+        for (int n = 0; n <= 60; n++) {
+            CheckKit.due("4: to and fro by " + n, x.tried(4, 0, n), n % 2);
+            CheckKit.due("else only there: " + n, x.tried(0, 0, n), Math.min(1, n));
+        }
+        triedIsOver();
+    }
+
+    /** What was tried holds for that call alone. */
+    private static void triedIsOver() {
+        String text = "sea 5 5;ship 2 2;wind 0;soup 6;seed 1;storm 39 1;isle i 4 2 9 2;gale 1 3 3;gale 2 2 1;mouth a 3 sick 0 0 course=1;"
+                + "mouth b 1 loses 1 course=0;mouth c 3 course=2;";
+        for (int what = 0; what < 6; what++) {
+            PlateVote x = CheckKit.told(text);
+            PlateVote y = CheckKit.told(text);
+            for (int t = 0; t < 6; t++) {
+                x.tried(what, what == 3 ? 2 : 0, 3);
+                for (int c = 0; c < 4; c++) {
+                    CheckKit.due("votes behind " + what, x.votes(c), y.votes(c));
+                }
+                for (int i = 0; i < 3; i++) {
+                    CheckKit.due("wish behind " + what, x.wish(i), y.wish(i));
+                    CheckKit.due("plates behind " + what, x.look(i, 1), y.look(i, 1));
+                    CheckKit.due("aboard behind " + what, x.look(i, 0), y.look(i, 0));
+                }
+                CheckKit.due("plan behind " + what, x.plan(3, -1), y.plan(3, -1));
+                CheckKit.due("fits behind " + what, x.fits(), y.fits());
+                x.tried(what, what == 3 ? 2 : 0, 3);
+                x.meals(1);
+                y.meals(1);
+                for (int k = 0; k < 4; k++) {
+                    CheckKit.due("log behind " + what, x.log(t, k), y.log(t, k));
+                    CheckKit.due("ship behind " + what, x.ship(k), y.ship(k));
+                }
+            }
+        }
     }
 
     private static void tried() {
@@ -326,6 +424,7 @@ final class PlanEdgesKit {
         CheckKit.due("nothing has happened", x.count(6) + x.count(9) + x.ship(0), 0);
 
         SentenceKit.promise(27, "NONE: no such ones (i 0 of all but 3; behind MEAL 59).");
+        x = CheckKit.told("sea 2 1;soup 999;mouth a 1 1;mouth b 0 1;");
         for (int what = 0; what < 6; what++) {
             int i = 0;
             CheckKit.due("n 61", x.tried(what, i, 61), -1);

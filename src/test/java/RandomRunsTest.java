@@ -59,7 +59,8 @@ public final class RandomRunsTest {
                 CheckKit.due("seed " + seed + before + story.substring(before.length()), answers[0], answers[1]);
                 return;
             }
-            if (to(80) == 0) {
+            // A text of 790 bytes takes forty calls more.
+            if (to(80) == 0 && calls < 460) {
                 calls += tell();
             }
             if (to(300) == 0) {

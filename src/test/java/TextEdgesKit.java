@@ -274,6 +274,12 @@ final class TextEdgesKit {
         CheckKit.faultAt("mouth a 1 (1)|1;", 1);
         CheckKit.faultAt("mouth a 1 (1) |far;", 1);
         CheckKit.faultAt("mouth a 1 (1 |1);", 1);
+        for (String name : "course far windy meal plates lost stock".split(" ")) {
+            CheckKit.faultAt("mouth a 1 1 |" + name + ";", 1);
+            CheckKit.faultAt("mouth a 1 1 |" + name + " 1;", 1);
+            CheckKit.faultAt("mouth a 1 " + name + " |1;", 1);
+            CheckKit.faultAt("mouth a 1 (" + name + " |" + name + ");", 1);
+        }
 
         SentenceKit.terms("N of E 0 .. 9999.");
         value("0", 0);
@@ -755,6 +761,13 @@ final class TextEdgesKit {
         CheckKit.faultAt(most + ";mouth b 1 1;may c 1 odds 1 |far;", 2);
         CheckKit.faultAt(most + ";mouth b 1 1;may c 1 odds 1 |not 1;", 2);
         CheckKit.faultAt(most + ";mouth b 1 1;may c 1 odds 1 (((|1)));", 2);
+        String nots = "not ".repeat(63);
+        CheckKit.fine("mouth a 1 " + nots + "1;", 1);
+        CheckKit.faultAt("mouth a 1 " + nots + "not |1;", 2);
+        CheckKit.faultAt("mouth a 1 " + nots + "not |not 1;", 2);
+        CheckKit.fine("mouth a 1 ((((((((" + nots + "1))))))));", 1);
+        CheckKit.due("of 63 nots", CheckKit.told("sea 2 1;mouth a 1 ((((((((" + nots + "0))))))));").law(0, 1, 0), 1);
+        CheckKit.fine("mouth a 1 " + "not (".repeat(8) + "not ".repeat(55) + "1))))))));", 1);
         // What can't stand there is the lesser fault; brackets are none.
         CheckKit.faultAt(most + ";mouth b 1 1 |not 1;", 1);
         CheckKit.faultAt(most + ";mouth b 1 1;may c 1 odds 1 |and 1;", 1);
