@@ -151,11 +151,17 @@ final class CallEdgesKit {
         }
         CheckKit.due("all 800", CheckKit.tell(x, full.toString()), 1);
         CheckKit.due("all 800", x.ship(2), 9);
+        textOfAllBytes();
+    }
+
+    private static void textOfAllBytes() {
         for (String sign : new String[] {";", "(", "=", "0", "?", "<"}) {
+            PlateVote x = new PlateVote();
             CheckKit.due("800 tokens", CheckKit.tell(x, sign.repeat(800)), -1);
             CheckKit.due("800 tokens", x.fault(1), 0);
             CheckKit.due("the rest of it", CheckKit.tell(x, "mouth a 1 " + sign.repeat(790)), -1);
         }
+        PlateVote x = new PlateVote();
         CheckKit.due("one word", CheckKit.tell(x, "a".repeat(800)), -1);
         CheckKit.due("one word", x.fault(1), 0);
         CheckKit.due("one number", CheckKit.tell(x, "soup 7" + "7".repeat(794)), -1);
@@ -256,7 +262,24 @@ final class CallEdgesKit {
                 CheckKit.due("no wind, no storm", x.log(0, 0) + x.log(1, 0) + x.log(0, 3) + x.log(1, 3), -2);
             }
         }
+        seedAndShipBehindText();
         crewsInTurn();
+    }
+
+    private static void seedAndShipBehindText() {
+        PlateVote x = new PlateVote();
+        PlateVote other = CheckKit.told("storm 60 1;");
+        other.meals(40);
+        for (int k = 0; k < 3; k++) {
+            CheckKit.tell(x, "ship 3 3;bahia 2 2;seed 4711;storm 60 1;");
+            CheckKit.due("told", x.ship(0) * 100 + x.ship(1), 1510);
+            CheckKit.tell(x, "storm 60 1;");
+            CheckKit.due("without", x.ship(0) * 100 + x.ship(1), 0);
+            x.meals(40);
+            for (int t = 0; t < 40; t++) {
+                CheckKit.due("as of seed 0 at meal " + t, x.log(t, 3), other.log(t, 3));
+            }
+        }
     }
 
     private static void crewsInTurn() {

@@ -12,6 +12,7 @@ final class MealEdgesKit {
         far();
         aboard();
         plates();
+        fullCrew();
         soup();
         greatest();
         whoVotes();
@@ -95,6 +96,30 @@ final class MealEdgesKit {
         x.meals(1);
         CheckKit.due("nobody", x.log(4, 1), 0);
         CheckKit.due("soup", x.ship(2), 100 - 3 - 1 - 6 - 4);
+    }
+
+    private static void fullCrew() {
+        SentenceKit.terms("By numbers each ABOARD who is FED (by call, all at first; MAY always) has his plates, none while sick,");
+        PlateVote x = CheckKit.told("sea 5 5;ship 2 2;bahia 3 2;soup 50;mouth a 9 course=1;mouth b 8 course=2;mouth c 7 course=1;mouth d 6 course=2;"
+                + "mouth e 5 course=1;may f 4 odds 1 course=2;may g 3 odds 1 course=1;may h 2 odds 1 course=2;may i 9 odds 1 course=1;");
+        x.truth(15);
+        int[] wishes = {1, 2, 1, 2, 1, 2, 1, 2, 1};
+        for (int i = 0; i < 9; i++) {
+            CheckKit.due("wish of number " + i, x.wish(i), wishes[i]);
+        }
+        CheckKit.due("the last one has what is left", x.votes(1), 9 + 7 + 5 + 3 + 6);
+        CheckKit.due("the others", x.votes(2), 8 + 6 + 4 + 2);
+        CheckKit.due("those who may be aboard eat in any plan", x.plan(1, -1), 18);
+        CheckKit.due("none of the mouths need be fed", x.plan(1, 0), 0);
+        CheckKit.due("tried without the last one", x.tried(3, 8, 1), 13);
+        CheckKit.due("all of them", x.meals(1), 1);
+        CheckKit.due("eaten", x.log(0, 1), 50);
+        CheckKit.due("taken", x.log(0, 0), 1);
+        for (int i = 0; i < 9; i++) {
+            CheckKit.due("lost of number " + i, x.look(i, 2), i % 2);
+        }
+        CheckKit.due("nothing is left", x.ship(2), 0);
+        CheckKit.due("who had a plate has none", x.wish(8), -2);
     }
 
     private static void soup() {
@@ -258,6 +283,18 @@ final class MealEdgesKit {
         PlateVote x = CheckKit.told("sea 3 3;ship 1 1;seed 1;storm 39 1;mouth a 2 course=1;mouth b 2 course=2;");
         x.meals(1);
         CheckKit.due("its plates more", x.log(0, 0), 2);
+        // The first two numbers of seed 342 are 24300 and 22806, those of seed 70 31801 and 3154.
+        x = CheckKit.told("seed 342;storm 1 1;");
+        x.meals(1);
+        CheckKit.due("0 of a hundred is below 1", x.log(0, 3), 2);
+        x = CheckKit.told("seed 70;storm 1 1;");
+        x.meals(1);
+        CheckKit.due("1 of a hundred isn't below 1", x.log(0, 3), -1);
+        x = CheckKit.told("seed 342;storm 0 1;");
+        x.meals(60);
+        for (int t = 0; t < 60; t++) {
+            CheckKit.due("not if it is 0, at meal " + t, x.log(t, 3), -1);
+        }
     }
 
     private static void taken() {

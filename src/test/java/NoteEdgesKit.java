@@ -85,6 +85,12 @@ final class NoteEdgesKit {
         x.strike(1);
         CheckKit.due("both struck", x.fraud(), -1);
         CheckKit.due("both struck", x.fits(), 15);
+        x = new PlateVote();
+        x.meals(1);
+        x.taken(0, 1);
+        CheckKit.due("all at first, without a text", x.count(8), 1);
+        CheckKit.due("all at first, without a text", x.fraud(), 0);
+        CheckKit.due("all at first, without a text", x.fits(), 0);
         // A strike behind n strikes nothing.
         x = after(1);
         x.taken(0, 0);
@@ -112,6 +118,20 @@ final class NoteEdgesKit {
         CheckKit.due("left: with b", x.fits(), 10);
         x.washed(0, 5);
         CheckKit.due("five plates as well", x.fits(), 2);
+        // Asked again behind what is undone, and behind an image.
+        x = after(2);
+        x.keep();
+        x.washed(0, 5);
+        CheckKit.due("b", x.fits(), 2);
+        x.undo();
+        CheckKit.due("still b", x.fits(), 2);
+        x.undo();
+        CheckKit.due("of no meal", x.fits(), 0);
+        x.back();
+        CheckKit.due("b again", x.fits(), 2);
+        x.fed(0);
+        x.truth(3);
+        CheckKit.due("whoever is fed and aboard now", x.fits(), 2);
         // They are aboard from the first meal on, whatever truth() says.
         x = CheckKit.told("sea 8 1;ship 4 0;wind 1;mouth a 2 course=1;may b 1 odds 25 loses 2 course=3;");
         x.meals(2);

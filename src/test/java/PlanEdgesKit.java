@@ -98,6 +98,15 @@ final class PlanEdgesKit {
         x = CheckKit.told("sea 4 1;bahia 1 0;wind 1;may c 3 odds 1 course=1;");
         x.truth(1);
         CheckKit.due("what all eat", x.plan(1, -1), 3);
+        // One votes otherwise by how much is left for him: each number of plates has a wish of its own.
+        x = CheckKit.told("sea 4 1;ship 1 0;bahia 2 0;wind 3;soup 10;mouth a 9 course=3;mouth b 8 (course=1)*(plates>7)+(course=3)*(plates<8);"
+                + "mouth c 1 course=1;mouth d 9 course=(plates<3)*2+1;");
+        CheckKit.due("c alone", x.plan(1, -1), 1);
+        CheckKit.due("c alone", x.plan(1, 0), 4);
+        x = CheckKit.told("sea 4 1;ship 1 0;bahia 2 0;wind 3;soup 10;gale 0 3 7;mouth a 9 course=3;mouth b 8 (course=1)*(plates>7)+(course=3)*(plates<8);"
+                + "mouth c 1 course=1;mouth d 9 course=(plates<3)*2+1;");
+        CheckKit.due("b alone", x.plan(1, -1), 8);
+        CheckKit.due("b alone", x.plan(1, 0), 2);
     }
 
     /** The best plan as it is when all are played: soup, meals, and whom to feed at each of them; null without one. */
