@@ -272,6 +272,7 @@ final class CallEdgesKit {
         other.meals(40);
         for (int k = 0; k < 3; k++) {
             CheckKit.tell(x, "ship 3 3;bahia 2 2;seed 4711;storm 60 1;");
+            CheckKit.tell(x, "ship 3 3;bahia 2 2;seed 4711;storm 60 1;");
             CheckKit.due("told", x.ship(0) * 100 + x.ship(1), 1510);
             CheckKit.tell(x, "storm 60 1;");
             CheckKit.due("without", x.ship(0) * 100 + x.ship(1), 0);

@@ -107,6 +107,19 @@ final class PlanEdgesKit {
                 + "mouth c 1 course=1;mouth d 9 course=(plates<3)*2+1;");
         CheckKit.due("b alone", x.plan(1, -1), 8);
         CheckKit.due("b alone", x.plan(1, 0), 2);
+        x = CheckKit.told("sea 4 1;ship 1 0;bahia 2 0;wind 3;soup 10;mouth a 9 course=3;mouth b 9 course=3;mouth c 1 course=1;mouth d 9 course=3;");
+        CheckKit.due("c alone, behind those with nine", x.plan(1, -1), 1);
+        CheckKit.due("c alone, behind those with nine", x.plan(1, 0), 4);
+        // What was asked for a plan is over with it.
+        x = CheckKit.told("sea 4 1;ship 1 0;bahia 3 0;wind 1;soup 9;mouth a 1 course=1+2*meal;");
+        x.meals(1);
+        CheckKit.due("a goes left, the wind right", x.plan(1, 0), 0);
+        CheckKit.due("left", x.wish(0), 3);
+        x.undo();
+        CheckKit.due("right, once that is undone", x.wish(0), 1);
+        CheckKit.due("two by the wind", x.plan(2, -1), 0);
+        CheckKit.tell(x, "sea 4 1;ship 1 0;bahia 3 0;mouth a 1 course=3;");
+        CheckKit.due("left, by another text", x.wish(0), 3);
     }
 
     /** The best plan as it is when all are played: soup, meals, and whom to feed at each of them; null without one. */
