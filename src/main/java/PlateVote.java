@@ -742,7 +742,8 @@ public final class PlateVote {
 
     /** The E of all mouths, one behind the other, each with its signs behind what they join. */
     static final class Code {
-        static final long ERROR = Long.MIN_VALUE;
+        /** The least long there is, far below every value. */
+        static final long ERROR = 0x8000000000000000L;
         static final long MOST = 1000000000000L;
         static final int KNOTS = 64;
         static final int NAMES = 7;

@@ -97,6 +97,12 @@ public final class FaceTest {
         while (imports.find()) {
             CheckKit.due("import", imports.group().equals("import java.util.NoSuchElementException;"), true);
         }
+        // Rule 4: of the library only what stands there; its constants do not.
+        Matcher library = Pattern.compile("\\b(Math|Integer|Long|Arrays|String|System|List)\\.\\w+").matcher(code);
+        Set<String> allowed = Set.of("Math.min", "Math.max", "Math.abs", "Integer.bitCount", "System.arraycopy");
+        while (library.find()) {
+            CheckKit.due("of the library: " + library.group(), allowed.contains(library.group()), true);
+        }
         for (int i = 0; i < text.length(); i++) {
             char c = text.charAt(i);
             if (c > 126 || c < 32 && c != '\n') {
